@@ -466,6 +466,9 @@ public final class SlopeChecker {
 
     /** A fraction in lowest terms; what is below stays above 0. */
     private static final class Ratio {
+        private static final int MOST_ABOVE = 3000000;
+        private static final int MOST_BELOW = 3000;
+
         long above;
         long below;
 
@@ -492,13 +495,13 @@ public final class SlopeChecker {
         }
 
         static boolean isTooFine(long n, long d) {
-            return n > 3000000 || n < -3000000 || d > 3000;
+            return n > MOST_ABOVE || n < -MOST_ABOVE || d > MOST_BELOW;
         }
 
         /** What divides both most; the steps of Euclid for two longs are fewer than 128. */
         static long divisor(long n, long d) {
-            long x = Math.abs(n);
-            long y = Math.abs(d);
+            long x = n < 0 ? -n : n;
+            long y = d < 0 ? -d : d;
             for (int i = 0; i < 128 && y != 0; i++) {
                 long rest = x % y;
                 x = y;
@@ -995,7 +998,9 @@ public final class SlopeChecker {
             token = DIGITS_TOKEN;
             digits = 0;
             while (at < length && bytes[at] >= '0' && bytes[at] <= '9') {
-                digits = Math.min(digits * 10 + bytes[at] - '0', FAR_TOO_MUCH);
+                if (digits < FAR_TOO_MUCH) {
+                    digits = digits * 10 + bytes[at] - '0';
+                }
                 at++;
             }
         }
@@ -1117,8 +1122,7 @@ public final class SlopeChecker {
             }
         }
 
-        void cutToMode(Bounds keeps) {
-            cut(keeps);
+        void cutToBox() {
             for (int k = 0; k < 4; k++) {
                 cutAt(k, EDGE_OF_ALL, 1);
             }
@@ -1144,18 +1148,24 @@ public final class SlopeChecker {
             int k = first;
             int sure = 0;
             for (int i = 0; i < NORMAL_ROOM * (NORMAL_ROOM + 1) && sure < live; i++) {
-                if (hasSide(k)) {
+                int p = back[k];
+                int q = next[k];
+                long across = normals.turn(p, q);
+                long side = normals.turn(k, q) * above[p] * below[q] * below[k]
+                    + normals.turn(p, k) * above[q] * below[p] * below[k]
+                    - across * above[k] * below[p] * below[q];
+                if (side >= 0) {
                     sure++;
-                    k = next[k];
-                } else if (normals.turn(back[k], next[k]) <= 0) {
+                    k = q;
+                } else if (across <= 0) {
                     return false;
                 } else {
-                    next[back[k]] = next[k];
-                    back[next[k]] = back[k];
+                    next[p] = q;
+                    back[q] = p;
                     live--;
                     sure = 0;
-                    k = back[k];
-                    first = k;
+                    k = p;
+                    first = p;
                 }
             }
             return true;
@@ -1177,14 +1187,6 @@ public final class SlopeChecker {
             next[last] = RIGHT;
             back[RIGHT] = last;
             first = RIGHT;
-        }
-
-        private boolean hasSide(int k) {
-            int p = back[k];
-            int q = next[k];
-            return normals.turn(k, q) * above[p] * below[q] * below[k]
-                + normals.turn(p, k) * above[q] * below[p] * below[k]
-                - normals.turn(p, q) * above[k] * below[p] * below[q] >= 0;
         }
 
         /** Behind shrink(): tells the TIGHT LIMITS; false if one is BEYOND. */
@@ -1412,7 +1414,8 @@ public final class SlopeChecker {
                 return;
             }
             cutter.loadMoved(model, e, guarded);
-            cutter.cutToMode(model.keeps[m]);
+            cutter.cut(model.keeps[m]);
+            cutter.cutToBox();
             if (!tighten(fresh.entry)) {
                 return;
             }
@@ -1469,7 +1472,8 @@ public final class SlopeChecker {
 
         private void grow(int m) {
             cutter.growAlong(model.slopeX[m], model.slopeY[m]);
-            cutter.cutToMode(model.keeps[m]);
+            cutter.cut(model.keeps[m]);
+            cutter.cutToBox();
         }
 
         /** Whether points are left that can be told; the CHECK STOPS, if a LIMIT of them is BEYOND. */

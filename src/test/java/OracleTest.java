@@ -25,7 +25,11 @@ public final class OracleTest {
             + "edge b c;when 1 0 0;when 0 1 1;put x 0;put y 999;edge c d;when 0 1 0;edge d c;when 1 0 0;when 0 -1 -1;"
             + "edge d e;when 1 0 0;when 0 1 1;put x 0;put y 998;edge e f;when 0 1 0;edge f e;when 1 0 0;when 0 -1 -9;"
             + "harm e 0 1 0;harm e 1 0 9;most 8;",
-        // an EXACT PART without a WAY
+        // EXACT PARTS without a WAY
+        "mode a 2 -9;harm a -3 9 -61;edge a a;when -4 9 9;put y 2;start a -7 -7 1 6;most 2;",
+        "mode a -8 -5;keep a -7 -6 50;edge a a;put y 7;edge a a;start a 5 11 -16 -14;most 2;",
+        "mode a -4 -3;keep a -4 -4 -7;keep a -8 3 5;edge a a;when 4 5 91;put x 2;start a 4 12 7 7;most 2;",
+        "mode a -3 -8;mode b -4 -3;edge a b;when 7 -8 54;edge b a;start a 3 3 18 18;most 2;",
         "mode a -8 -1;keep a -8 2 53;edge a a;when -8 -1 23;add y 3;start a -1 2 -7 -7;most 2;",
         // fractions that become finer by each jump
         "mode a 1 -7;keep a 0 -1 0;mode b -7 1;keep b -1 0 0;edge a b;when 0 1 0;edge b a;when 1 0 0;start a 0 0 1 1;",

@@ -15,12 +15,22 @@ public final class PromiseTest {
     /** Each jump divides by 7, until the fractions are BEYOND. */
     private static final String SEVENTHS = "mode a 1 -7;keep a 0 -1 0;mode b -7 1;keep b -1 0 0;"
         + "edge a b;when 0 1 0;edge b a;when 1 0 0;start a 0 0 1 1;";
+    /** Only what is JOINED, from 0 to 4, has harm between. */
+    private static final String JOINED_HARM = "mode a 0 0;start a 0 0 0 0;edge a a;add x 4;when 1 0 0;"
+        + "harm a 1 0 3;harm a -1 0 -1;most 1;";
     /** The first PART itself is BEYOND. */
     private static final String BEYOND_AT_ONCE =
         "mode a 2 -5;keep a 7 -8 547;keep a -8 8 717;keep a -9 -7 410;start a -590 836 523 650;";
-    /** PART 1 is EXACT, but a point of its WAY is BEYOND. */
+    /** PART 1 is EXACT, but a TIME of its WAY is BEYOND. */
     private static final String NO_WAY =
         "mode a -8 -1;keep a -8 2 53;edge a a;when -8 -1 23;add y 3;start a -1 2 -7 -7;most 2;";
+    /** PARTS that are EXACT, with what is BEYOND in their WAYS: x of OUT, y of OUT, x of IN, y of IN. */
+    private static final String[] NO_WAYS = {
+        "mode a 2 -9;harm a -3 9 -61;edge a a;when -4 9 9;put y 2;start a -7 -7 1 6;most 2;",
+        "mode a -8 -5;keep a -7 -6 50;edge a a;put y 7;edge a a;start a 5 11 -16 -14;most 2;",
+        "mode a -4 -3;keep a -4 -4 -7;keep a -8 3 5;edge a a;when 4 5 91;put x 2;start a 4 12 7 7;most 2;",
+        "mode a -3 -8;mode b -4 -3;edge a b;when 7 -8 54;edge b a;start a 3 3 18 18;most 2;"};
+    private static final int[] NO_WAYS_TO = {1, 1, 1, 3};
     /** Its deepest WAY takes times by 2401, 1600 and 729, together by more than 1000000000. */
     private static final String FINE_TIMES =
         "mode a 1 -7;keep a 0 -1 0;mode b -7 1;keep b -1 0 0;mode c 1 -5;keep c 0 -1 0;mode d -8 1;keep d -1 0 0;"
@@ -158,6 +168,15 @@ public final class PromiseTest {
         due("normals anew", x.count(2), 8);
         due("again, smaller", tell(x, SLANT), 3);
         due("normals anew, smaller", x.count(2), 7);
+        String done = "mode a 0 0;keep a 1 0 1;harm a 1 0 1;edge a a;when 1 0 1;put x 3;put y 4;";
+        due("what is done", tell(x, done), 7);
+        due("what is done, again", tell(x, done), 7);
+        due("nothing is done", tell(x, "mode a 0 0;edge a a;"), 2);
+        for (int what = 2; what < 7; what++) {
+            due("nothing is done, " + what, x.edge(0, what), 0);
+        }
+        due("nothing is kept", x.mode(0, 2), 0);
+        due("nothing is harm", x.mode(0, 3), 0);
         due("only the first bytes", tell(x, "most 5;most 6;"), -1);
         feedAll(x, "most 5;most 6;");
         due("only the first bytes", x.text(7), 1);
@@ -169,6 +188,7 @@ public final class PromiseTest {
         right("mode a 1 0;", 1);
         right("\nmode\na - 1\n-  9 ;\n", 1);
         right("mode abcdef 0009 0;", 1);
+        right("mode z 0 0;mode zzzzzz 0 0;keep zzzzzz 1 0 1;edge z zzzzzz;", 4);
         faulty(";", 1, 0);
         faulty("modes a 1 0;", 1, 0);
         faulty("x;", 1, 0);
@@ -373,6 +393,17 @@ public final class PromiseTest {
         due("gone", joined.part(3, 6), 1);
         due("gone and harmed", joined.part(3, 7), 1);
         due("harmed", joined.check(6), 2);
+        SlopeChecker onlyJoined = stepped(JOINED_HARM, 60);
+        due("closed", onlyJoined.check(4), 0);
+        due("no stop", onlyJoined.check(3), 0);
+        due("harmed by what is joined alone", onlyJoined.check(1), 1);
+        due("that isn't exact", onlyJoined.check(2), -2);
+        due("so it isn't safe", onlyJoined.check(0), 0);
+        due("the first is gone", onlyJoined.check(5), 1);
+        due("the first is harmed, not safe", stepped("mode a 0 0;harm a 1 0 1;start a 0 0 0 0;", 1).check(0), 0);
+        SlopeChecker covered = stepped("mode a 1 0;start a 0 0 0 0;edge a a;", 60);
+        due("covered by the first", covered.check(7), 1);
+        due("one part", covered.count(3), 1);
         due("harm at the edge of a set", stepped("mode a 1 0;keep a 1 0 7;harm a -1 0 -7;start a 0 0 0 0;", 1).check(6), 1);
         due("harm just off a set", stepped("mode a 1 0;keep a 1 0 7;harm a -1 0 -8;start a 0 0 0 0;", 1).check(6), 0);
         due("all bounds of harm must hold",
@@ -402,6 +433,10 @@ public final class PromiseTest {
         due("mode(0, 6)", modeOr(x, 0, 6), 10002);
         due("mode(0, -1)", modeOr(x, 0, -1), 10002);
         due("mode(2, 6)", modeOr(x, 2, 6), 10001);
+        SlopeChecker chain = told("mode a 0 0;mode b 0 0;mode c 0 0;edge a b;edge b c;edge a c;");
+        due("edges from the first", modeOr(chain, 0, 4), 2);
+        due("edges from the second", modeOr(chain, 1, 4), 1);
+        due("edges from the third", modeOr(chain, 2, 4), 0);
         due("PARTS that aren't GONE", modeOr(stepped(COUNTER, 60), 0, 5), 8);
         due("a slope below 0", modeOr(told(SEVENTHS), 1, 0), -7);
     }
@@ -625,6 +660,8 @@ public final class PromiseTest {
         due("by 2", x.meets(1, -2, 0, -20), 1);
         due("by 2, a half behind", x.meets(1, -2, 0, -21), 0);
         due("all", x.meets(1, 0, 1, 999), 1);
+        due("the first normal", x.meets(1, 1, 0, 4), 1);
+        due("the first normal, ahead of it", x.meets(1, 1, 0, 3), 0);
         due("no normal", x.meets(1, 1, 1, 5), -2);
         due("no normal of no part", x.meets(9, 1, 1, 5), -1);
         due("both 0", x.meets(1, 0, 0, 1), -1);
@@ -655,6 +692,11 @@ public final class PromiseTest {
         due("it is exact", z.part(1, 4), 1);
         due("but BEYOND", z.way(1), -3);
         due("way(0) is there", z.way(0), 1);
+        for (int i = 0; i < NO_WAYS.length; i++) {
+            SlopeChecker w = stepped(NO_WAYS[i], 20);
+            due("exact, " + i, w.part(NO_WAYS_TO[i], 4), 1);
+            due("BEYOND, " + i, w.way(NO_WAYS_TO[i]), -3);
+        }
     }
 
     private static void places(SlopeChecker x, int p, int[][] want) {
@@ -748,12 +790,51 @@ public final class PromiseTest {
         // what is put must be within what is kept, too
         due("can't be put there", told("mode a 1 0;mode b 0 0;keep b 1 0 3;edge a b;put x 4;").ride(0, 0, 0, 1, 1), 0);
         due("can't be added up to 1001", told("mode a 0 0;edge a a;add x 1;").ride(0, 1000, 0, 1, 5), 0);
+        due("can't begin for x and y", told("mode a 0 0;keep a 1 2 10;").ride(0, 0, 11, 2, 1), -2);
+        due("can begin for x and y", told("mode a 0 0;keep a 1 2 10;").ride(0, 0, 5, 1, 1), 0);
+        putAtTheEdge();
+        severalBounds();
         // a guard that has gone by is never met again
         due("gone by", told("mode a 1 0;edge a a;when 1 0 5;").ride(0, 6, 0, 1, 1), 0);
         // a guard that is met only behind what the mode keeps
         due("not kept so long", told("mode a 1 0;keep a 1 0 4;edge a a;when -1 0 -5;").ride(0, 0, 0, 1, 1), 0);
         // the end of what is within, too
         due("not within so long", told("mode a 9 0;edge a a;when -1 0 -999;").ride(0, 1000, 0, 1, 1), 1);
+    }
+
+    /** What is put neither moves nor leaves what is kept. */
+    private static void putAtTheEdge() {
+        SlopeChecker x = told("mode a 1 0;mode b 0 0;keep b 1 0 5;edge a b;when -1 0 -3;put x 5;");
+        due("x put at the edge", x.ride(0, 1, 0, 3, 1), 1);
+        due("x put at the edge, time", x.ridden(1, 6), 8);
+        due("x put at the edge, time below", x.ridden(1, 7), 3);
+        due("x put there", x.ridden(1, 1), 5);
+        SlopeChecker y = told("mode a 0 1;mode b 0 0;keep b 0 1 5;edge a b;when 0 -1 -3;put y 5;");
+        due("y put at the edge", y.ride(0, 0, 1, 3, 1), 1);
+        due("y put at the edge, time", y.ridden(1, 6), 8);
+        due("y put at the edge, time below", y.ridden(1, 7), 3);
+        due("y put there", y.ridden(1, 3), 5);
+    }
+
+    /** The least of what ends the span of times, the greatest of what begins it, in either order. */
+    private static void severalBounds() {
+        due("kept up to 10/3, from 4", told("mode a 1 0;keep a 3 0 10;edge a a;when 1 0 5;when -1 0 -4;")
+            .ride(0, 0, 0, 1, 1), 0);
+        due("kept up to 5, guarded up to 10/3, from 4", told("mode a 1 0;keep a 1 0 5;edge a a;when 3 0 10;when -1 0 -4;")
+            .ride(0, 0, 0, 1, 1), 0);
+        due("kept up to 10/3, from 3", told("mode a 1 0;keep a 3 0 10;edge a a;when 1 0 5;when -1 0 -3;")
+            .ride(0, 0, 0, 1, 1), 1);
+        String[] guards = {"when -3 0 -10;when -1 0 -3;", "when -1 0 -3;when -3 0 -10;"};
+        for (String guard : guards) {
+            SlopeChecker x = told("mode a 1 0;edge a a;" + guard);
+            x.ride(0, 0, 0, 1, 1);
+            due("from 10/3 on: " + guard, x.ridden(1, 6), 10);
+            due("from 10/3 on, below: " + guard, x.ridden(1, 7), 3);
+        }
+        SlopeChecker y = told("mode a 1 0;mode b 0 0;edge a b;when -3 0 -10;edge a b;when -2 0 -7;edge a b;when -5 0 -16;");
+        y.ride(0, 0, 0, 1, 1);
+        due("the earliest of 10/3, 7/2, 16/5", y.ridden(1, 5), 2);
+        due("its time", y.ridden(1, 6), 16);
     }
 
     private static void ridden() {
@@ -808,6 +889,7 @@ public final class PromiseTest {
         SlopeChecker y = told(SLANT);
         y.ride(0, 0, 0, 1, 5);
         due("no edge", y.ended(), 1);
+        endedBeyond();
         SlopeChecker z = told("mode a 1 0;edge a a;when -1 0 -5;put x 0;keep a 1 0 5;edge a a;when 1 0 -9;");
         z.ride(0, 0, 0, 1, 7);
         due("all jumps", z.ended(), 3);
@@ -816,6 +898,34 @@ public final class PromiseTest {
         due("asked first, though there is no edge more", w.ended(), 3);
         w.ride(0, 0, 0, 1, 2);
         due("no edge more", w.ended(), 1);
+    }
+
+    private static void endedBeyond() {
+        // 3000 below isn't BEYOND, 6000 is
+        String halves = "mode a 1 -5;keep a 0 -1 0;mode b -5 1;keep b -1 0 0;mode c 1 -4;keep c 0 -1 0;mode d -2 1;"
+            + "edge a b;when 0 1 0;edge b c;when 1 0 0;edge c d;when 0 1 0;edge d d;when 1 0 0;";
+        SlopeChecker x = told(halves);
+        due("up to 1/3000", x.ride(0, 0, 1, 30, 30), 3);
+        due("1/3000 is told", x.ridden(3, 7), 3000);
+        due("1/6000 isn't", x.ended(), 2);
+        // a TIME of 1249 by 2401 isn't BEYOND above, one of 1250 is
+        String far = "mode a 1 -7;keep a 0 -1 0;mode b -7 1;keep b -1 0 0;mode c 0 1;mode d 0 0;edge a b;when 0 1 0;"
+            + "edge b a;when 1 0 0;when 0 -1 -1;edge b c;when 1 0 0;when 0 1 1;add y -999;edge c d;when 0 -1 ";
+        SlopeChecker y = told(far + "-250;");
+        due("up to 2997850/2401", y.ride(0, 0, 999, 1, 30), 5);
+        due("2997850 is told", y.ridden(5, 6), 2997850);
+        SlopeChecker z = told(far + "-251;");
+        due("up to 3000251/2401", z.ride(0, 0, 999, 1, 30), 4);
+        due("3000251 isn't told", z.ended(), 2);
+        // the time is told, but x by 343 and 9 together isn't, nor y
+        SlopeChecker v = told("mode a 1 -7;keep a 0 -1 0;mode b -7 1;keep b -1 0 0;mode c 1 9;mode d 0 0;"
+            + "edge a b;when 0 1 0;edge b c;when 1 0 3;when 0 1 0;edge b a;when 1 0 0;edge c d;when 0 -1 -1;");
+        due("x is BEYOND", v.ride(0, 0, 900, 1, 30), 4);
+        due("x is BEYOND, it ends", v.ended(), 2);
+        SlopeChecker w = told("mode a -7 1;keep a -1 0 0;mode b 1 -7;keep b 0 -1 0;mode c 9 1;mode d 0 0;"
+            + "edge a b;when 1 0 0;edge b c;when 0 1 3;when 1 0 0;edge b a;when 0 1 0;edge c d;when -1 0 -1;");
+        due("y is BEYOND", w.ride(0, 900, 0, 1, 30), 4);
+        due("y is BEYOND, it ends", w.ended(), 2);
     }
 
     private static void followed() {
@@ -827,8 +937,16 @@ public final class PromiseTest {
         due("some parts so far", x.followed(), 0);
         x.step(1);
         due("all parts", x.followed(), 1);
-        x.ride(0, 0, -3, 1, 2);
+        x.ride(0, 0, -3, 1, 1);
         due("from elsewhere", x.followed(), 0);
+        SlopeChecker back = told("mode a 1 0;start a 0 0 0 0;edge a a;when -1 0 -5;put x 0;");
+        back.ride(0, 0, 0, 1, 3);
+        due("back into the first part", back.followed(), 1);
+        SlopeChecker fine = stepped(SEVENTHS, 60);
+        fine.ride(0, 0, 1, 1, 3);
+        due("by fractions", fine.followed(), 1);
+        fine.ride(0, 0, 29, 30, 3);
+        due("by other fractions", fine.followed(), 0);
         // the point as it began isn't asked
         SlopeChecker y = stepped("mode a 0 0;mode b 0 0;start a 0 0 0 0;edge a b;put x 1;", 1);
         y.ride(0, 5, 0, 1, 1);
@@ -926,6 +1044,7 @@ public final class PromiseTest {
         String chain = "mode a 0 0;mode b 0 0;mode c 0 0;edge a b;edge b c;edge a c;edge c c;harm c 1 0 9;start a 0 0 0 0;";
         due("two ways to harm", told(chain).blamed(60), 0);
         due("one way within one step", told(chain).blamed(1), 4);
+        due("harmed by what is joined alone", told(JOINED_HARM + "edge a a;when 1 0 -5;").blamed(60), 1);
         due("nothing is changed", x.count(4), 0);
     }
 

@@ -1037,7 +1037,7 @@ public final class SlopeChecker {
     }
 
     /**
-     * The bench on which SETS are cut and grown: a LIMIT for each NORMAL (below 0: none),
+     * The bench on which SETS are cut and grown: a LIMIT for each NORMAL (with 0 below: none),
      * not TIGHT until shrink() and settle(). Limits on it stay so small that longs hold all products:
      * above 90,000,000, below 3000, and 162 is the most that turn() answers.
      */

@@ -794,6 +794,13 @@ public final class PromiseTest {
         due("can begin for x and y", told("mode a 0 0;keep a 1 2 10;").ride(0, 0, 5, 1, 1), 0);
         putAtTheEdge();
         severalBounds();
+        SlopeChecker still = told("mode a 0 0;edge a a;");
+        int[] ends = {-1000, 1000};
+        for (int atX : ends) {
+            for (int atY : ends) {
+                due("a jump in the corner " + atX + ", " + atY, still.ride(0, atX, atY, 1, 2), 2);
+            }
+        }
         // a guard that has gone by is never met again
         due("gone by", told("mode a 1 0;edge a a;when 1 0 5;").ride(0, 6, 0, 1, 1), 0);
         // a guard that is met only behind what the mode keeps

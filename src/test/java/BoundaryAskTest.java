@@ -133,9 +133,35 @@ public final class BoundaryAskTest {
 
         s.of(9, "At most 24.");
         s.due("24", s.told(NORMALS_24).count(2), 24);
+        full();
         SlopeChecker more = s.told(NORMALS_24);
         s.due("no 25th", Sentences.tell(more, NORMALS_24 + "keep c 9 1 1;"), -1);
         s.due("its FAULT", more.fault(0), 2);
+    }
+
+    /** With 24 NORMALS all that goes over them can be asked. */
+    private static void full() {
+        SlopeChecker x = s.told(NORMALS_24 + "edge a b;add x 1;edge b a;add x 1;most 1;");
+        s.due("STEPS with 24", x.step(3), 3);
+        s.due("PARTS with 24", x.count(3), 4);
+        s.due("JOINED with 24", x.check(8), 2);
+        s.due("PART 0 in PART 2", x.within(0, 2), 1);
+        s.due("PART 2 in PART 0", x.within(2, 0), 0);
+        s.due("has with 24", x.has(2, 0, 2, 0, 1), 1);
+        s.due("has not with 24", x.has(2, 0, 61, 0, 30), 0);
+        s.due("where with 24", x.where(0, 0, 0, 1), 2);
+        s.due("meets with 24", x.meets(0, 8, -9, -999), 0);
+        s.due("way with 24", x.way(1), 2);
+        s.due("OUT of its first place", x.onWay(1, 0, 5), 0);
+        s.due("ride with 24", x.ride(0, 0, 0, 1, 4), 4);
+        s.due("followed with 24", x.followed(), 0);
+        s.due("corners of a line with 24", x.part(0, 8), 2);
+        s.due("ifMost with 24", x.ifMost(8, 3, 0), 4);
+        SlopeChecker put = s.stepped(NORMALS_24 + "edge a b;put y 3;edge a b;put x 4;edge a b;put x 0;put y 100;most 8;", 1);
+        for (int p = 1; p <= 3; p++) {
+            s.due("way with 24, put, to " + p, put.way(p), 2);
+            s.due("OUT of its first place, to " + p, put.onWay(p, 0, 7), 0);
+        }
     }
 
     private static void normal() {
@@ -219,6 +245,11 @@ public final class BoundaryAskTest {
         for (int k = 0; k < 4; k++) {
             s.due("limit(0, 1, " + k + ", 0)", x.limit(0, 1, k, 0), want[k][0]);
             s.due("limit(0, 1, " + k + ", 1)", x.limit(0, 1, k, 1), want[k][1]);
+        }
+        for (int d = 2; d <= 9; d++) {
+            SlopeChecker whole = s.told("mode a 0 0;keep a " + d + " 0 " + 3 * d + ";start a -9 9 0 0;");
+            s.due("3 by " + d, whole.limit(0, 1, 0, 0), 3);
+            s.due("1 below by " + d, whole.limit(0, 1, 0, 1), 1);
         }
         SlopeChecker zero = s.told("mode a 0 0;keep a 7 0 0;start a -9 9 0 0;");
         s.due("0 above", zero.limit(0, 1, 0, 0), 0);
@@ -444,6 +475,10 @@ public final class BoundaryAskTest {
         s.due("B -9", x.meets(0, 0, -9, 0), 1);
         s.due("B -10", x.meets(0, 0, -10, 0), -1);
         s.due("both 0", x.meets(0, 0, 0, 0), -1);
+        s.due("0 1", x.meets(0, 0, 1, 0), 1);
+        s.due("0 -1", x.meets(0, 0, -1, 0), 1);
+        s.due("1 0", x.meets(0, 1, 0, 0), 1);
+        s.due("-1 0", x.meets(0, -1, 0, 0), 1);
         s.due("C 999", x.meets(0, 1, 0, 999), 1);
         s.due("C 1000", x.meets(0, 1, 0, 1000), -1);
         s.due("C -999", x.meets(0, 1, 0, -999), 0);

@@ -25,6 +25,7 @@ public final class BoundaryStepTest {
         grown();
         takes();
         edgesTaken();
+        lastEdge();
         movedBeyond();
         covered();
         most();
@@ -222,6 +223,13 @@ public final class BoundaryStepTest {
         s.due("LIMIT of 1 -1", slant.limit(1, 1, slant.normalOf(1, -1), 0), 0);
         s.due("on its side", slant.has(1, 1, 2, 2, 1), 1);
         s.due("off its side", slant.has(1, 1, 60, 59, 30), 0);
+        String[] guards = {"when 3 0 7;", "when 2 0 5;"};
+        for (int first = 0; first < 2; first++) {
+            SlopeChecker x = s.stepped("mode a 0 0;mode c 0 0;start a 2 9 0 0;edge a c;" + guards[first] + "edge a c;put y 1;"
+                + guards[1 - first] + "most 1;", 1);
+            s.due("5/2 of 7/3 and 5/2", x.limit(2, 1, 0, 0), 5);
+            s.due("5/2 of 7/3 and 5/2, below", x.limit(2, 1, 0, 1), 2);
+        }
     }
 
     private static void takes() {
@@ -249,6 +257,12 @@ public final class BoundaryStepTest {
         s.due("kept nowhere", s.stepped(kept + "-7;", 1).count(3), 1);
         s.due("nothing is COVERED by that", s.stepped(kept + "-7;", 1).check(7), 0);
         s.due("it doesn't STOP by that", s.stepped(kept + "-7;", 1).check(3), 0);
+        SlopeChecker entry = s.stepped(kept + "-5;", 1);
+        s.due("ENTRY is cut by what is kept", entry.limit(1, 0, 1, 0), -5);
+        s.due("ENTRY is cut by nothing else", entry.limit(1, 0, 0, 0), 6);
+        String back = "mode a 0 0;mode b -1 0;keep b 1 0 5;start a 0 0 0 0;edge a b;put x ";
+        s.due("from 5 back", s.stepped(back + "5;", 1).count(3), 2);
+        s.due("not from 6 back", s.stepped(back + "6;", 1).count(3), 1);
 
         s.of(5, "By each EDGE from its MODE, by numbers");
         SlopeChecker x = s.stepped("mode a 0 0;mode b 0 0;start a 0 0 0 0;edge a b;add x 3;edge b b;add x 5;edge a b;add x 1;", 1);
@@ -257,6 +271,23 @@ public final class BoundaryStepTest {
         s.due("EDGE of PART 2", x.part(2, 2), 2);
         s.due("x of PART 1", x.limit(1, 1, 0, 0), 3);
         s.due("x of PART 2", x.limit(2, 1, 0, 0), 1);
+    }
+
+    /** What EDGE 9 puts and adds is its own. */
+    private static void lastEdge() {
+        s.of(5, "put: a size becomes N, -999 .. 999; add: it is N more, -999 .. 999: of the latest edge");
+        StringBuilder ten = new StringBuilder("mode a 0 0;mode b 0 0;start a 1 2 3 4;");
+        for (int e = 0; e < 9; e++) {
+            ten.append("edge b b;add x ").append(e + 20).append(";put y ").append(e + 40).append(';');
+        }
+        String[] done = {"put x -999;add y 990;", "add x 998;add y -999;", "add x 7;put y 999;", ""};
+        int[][] want = {{-999, 999, 994, -993}, {1000, -999, -995, 996}, {9, -8, 999, -999}, {2, -1, 4, -3}};
+        for (int i = 0; i < done.length; i++) {
+            SlopeChecker x = s.stepped(ten + "edge a b;" + done[i], 1);
+            for (int k = 0; k < 4; k++) {
+                s.due("LIMIT " + k + " by " + done[i], x.limit(1, 0, k, 0), want[i][k]);
+            }
+        }
     }
 
     private static void movedBeyond() {
@@ -325,6 +356,13 @@ public final class BoundaryStepTest {
         s.due("its SET, from", x.limit(2, 1, 1, 0), -1);
         s.due("its SET, to", x.limit(2, 1, 0, 0), 3);
         s.due("its ENTRY, from", x.limit(2, 0, 1, 0), -3);
+        // what is kept goes farther to the right between both than at either: only what is GROWN anew comes there
+        String roof = "mode a 1 0;keep a 1 1 10;keep a 1 -1 10;start a 0 0 -5 -5;edge a a;put x 0;add y ";
+        SlopeChecker grown = s.stepped(roof + "10;most 1;", 1);
+        s.due("one to the right of 5 ahead", grown.limit(0, 1, 0, 0), 5);
+        s.due("up to the roof", grown.limit(1, 1, 0, 0), 10);
+        SlopeChecker below = s.stepped(roof + "4;most 1;", 1);
+        s.due("not up to the roof", below.limit(1, 1, 0, 0), 9);
     }
 
     private static void mostIs(String text, int most) {
@@ -479,6 +517,7 @@ public final class BoundaryStepTest {
             s.due("check(" + (4 + i) + ") at first", x.check(4 + i), new4[i]);
             s.due("check(" + (4 + i) + ") at last", y.check(4 + i), all[i]);
         }
+        s.due("PART 0 is HARMED", s.told(COUNTER + "harm a 1 0 0;").check(6), 1);
         s.due("COVERED ten times", s.stepped("mode a 0 0;start a 0 0 0 0;" + Sentences.times(10, "edge a a;"), 1).check(7), 10);
 
         s.of(6, "NONE for another what.");

@@ -91,7 +91,33 @@ public final class BoundaryTextTest {
             s.due("TAPE behind text(" + n + ")", x.count(6), 0);
             s.due("text(1) behind it", x.text(1), -2);
         }
+        cutAt("most 12;", 6, 1, 6);
+        cutAt("most 12;", 7, 2, 5);
+        cutAt("mode abcdefg 0 0;", 11, 1, 11);
+        cutAt("mode abcdefg 0 0;", 12, 1, 5);
+        cutAt("mode a -5 0;", 8, 1, 8);
+        cutAt("mode a   5 0;", 8, 1, 8);
+        allAnew();
 
+        s.of(3, "how many LINES");
+        s.right("", 0);
+        s.right(" \n", 0);
+        s.right("most 1;", 1);
+        s.right("most 1;mode a 0 0;", 2);
+        s.right(SIX + times(10, "edge a b;put x 1;put y 1;"), 36);
+        textRefused();
+    }
+
+    /** The FAULT of the first n bytes, with more behind them on the TAPE. */
+    private static void cutAt(String tape, int n, int kind, int place) {
+        SlopeChecker x = new SlopeChecker();
+        Sentences.feedAll(x, tape);
+        s.due("text(" + n + ") of " + tape, x.text(n), -1);
+        s.due("fault(0) of " + n + " bytes of " + tape, x.fault(0), kind);
+        s.due("fault(1) of " + n + " bytes of " + tape, x.fault(1), place);
+    }
+
+    private static void allAnew() {
         s.of(3, "(all anew)");
         SlopeChecker anew = s.stepped(EDGE + "put x 3;start a 0 0 0 0;most 7;keep a 1 2 9;", 3);
         anew.ride(0, 0, 0, 1, 1);
@@ -102,14 +128,28 @@ public final class BoundaryTextTest {
         }
         s.due("check(4) anew", anew.check(4), 0);
         s.due("ended() anew", anew.ended(), -1);
+        // MODES, BOUNDS, EDGES, NORMALS, PARTS that are OPEN, GONE, HARMED, COVERED and JOINED, and a RIDE are there ahead of it
+        String used = "mode a 0 0;start a 0 9 0 9;most 2;" + times(3, "keep a 1 0 99;") + times(2, "harm a 2 3 99;")
+            + "mode b 1 2;keep b 0 1 9;harm b 1 1 9;edge a b;put x 5;put y 7;" + times(2, "when 1 1 99;") + "edge a a;add x 1;add y 1;";
+        String[] next = {"", "mode b 0 0;", "mode a 0 0;start a 0 0 0 0;", "mode a 0 0;mode c 0 0;edge a c;edge c a;start c 1 1 1 1;",
+            "most 3;mode a 1 0;edge a a;start a 0 0 0 0;"};
+        for (String text : next) {
+            anewBehind(used, 1, text);
+            anewBehind(used, 9, text);
+        }
+    }
 
-        s.of(3, "how many LINES");
-        s.right("", 0);
-        s.right(" \n", 0);
-        s.right("most 1;", 1);
-        s.right("most 1;mode a 0 0;", 2);
-        s.right(SIX + times(10, "edge a b;put x 1;put y 1;"), 36);
-        textRefused();
+    private static void anewBehind(String used, int steps, String text) {
+        SlopeChecker x = new SlopeChecker();
+        for (int i = 0; i < 2; i++) {
+            s.due("LINES of what is used", Sentences.tell(x, used), 19);
+            s.due("STEPS", x.step(steps), steps);
+            x.ride(0, 0, 0, 1, 5);
+        }
+        Sentences.tell(x, text);
+        s.due("all anew by " + text, Sentences.print(x) - Sentences.print(s.told(text)), 0);
+        s.due("STEPS of it", x.step(60) - s.told(text).step(60), 0);
+        s.due("again, all anew by " + text, Sentences.print(x) - Sentences.print(s.stepped(text, 60)), 0);
     }
 
     private static void textRefused() {

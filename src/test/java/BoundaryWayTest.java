@@ -8,6 +8,9 @@ public final class BoundaryWayTest {
         + "edge a b;add x 1;edge b c;add x 1;edge c d;add x 1;edge d e;add x 1;edge e f;add x 1;edge f a;add x 1;most 8;";
     private static final String BOUNCE = "mode a 1 0;mode b 0 1;keep a 1 0 10;edge a b;when -1 0 -4;"
         + "edge b a;when 0 -1 -6;put x 0;start a 0 2 0 0;harm b 0 -1 -8;";
+    /** Nine EDGES that put and add other numbers, then a tenth. */
+    private static final String TEN = "mode a 0 0;mode b 0 0;start a 1 2 3 4;" + Sentences.times(5, "edge b b;add x 20;put y 30;")
+        + Sentences.times(4, "edge b b;put x 40;add y 50;") + "edge a b;";
     /** PART 1 is EXACT; OUT of its WAY would have 3002 below. */
     private static final String OUT_3002 = "mode a -7 9;keep a -1 8 28;mode b 5 -1;start a 0 0 -20 -20;edge a b;when 1 -8 -28;"
         + "harm b -9 -7 25;";
@@ -160,6 +163,16 @@ public final class BoundaryWayTest {
         cells(s.stepped(ahead + "put y 9;add x 1;when 0 -2 -3;", 1), 1, 0, new int[] {0, -1, 1, 3, 2, -1, 1, 3, 2, 0, 1});
         cells(s.stepped(ahead + "add x 1;add y -1;", 1), 1, 0, new int[] {0, -1, 1, -2, 1, -1, 1, -2, 1, 0, 1});
         cells(s.stepped(ahead + "add x 1;add y -1;", 1), 1, 1, new int[] {1, 0, 1, -3, 1, 0, 1, -3, 1, 0, 1});
+        // by the last of ten EDGES, whose numbers are its own
+        SlopeChecker last = s.stepped(TEN + "add x 7;add y -6;", 1);
+        cells(last, 1, 0, new int[] {0, 1, 1, 3, 1, 1, 1, 3, 1, 0, 1});
+        cells(last, 1, 1, new int[] {1, 8, 1, -3, 1, 8, 1, -3, 1, 0, 1});
+        last = s.stepped(TEN + "put x 7;add y -6;", 1);
+        cells(last, 1, 0, new int[] {0, 1, 1, 3, 1, 1, 1, 3, 1, 0, 1});
+        cells(last, 1, 1, new int[] {1, 7, 1, -3, 1, 7, 1, -3, 1, 0, 1});
+        last = s.stepped(TEN + "add x 7;put y -6;when 0 -1 -4;", 1);
+        cells(last, 1, 0, new int[] {0, 1, 1, 4, 1, 1, 1, 4, 1, 0, 1});
+        cells(last, 1, 1, new int[] {1, 8, 1, -6, 1, 8, 1, -6, 1, 0, 1});
     }
 
     private static void onWay() {
@@ -362,11 +375,69 @@ public final class BoundaryWayTest {
             s.due("not beyond 1000 by " + adds[k], x.ride(0, 1000 * ways[k][0], 1000 * ways[k][1], 1, 2), 0);
             s.due("not beyond 1000 by a bit", x.ride(0, 28972 * ways[k][0], 28972 * ways[k][1], 29, 1), 0);
         }
+        alongTheSides();
+        keptThere();
         SlopeChecker leave = s.told("mode a -1 0;mode b 0 0;edge a b;add x 500;");
         leave.ride(0, 1000, 0, 1, 1);
         time("it waits until it is within", leave, 500, 1);
         leave.ride(0, 500, 0, 1, 1);
         time("it is within at once", leave, 0, 1);
+    }
+
+    /** At x or y 1000 or -1000 it is within, all the way from one corner to the next. */
+    private static void alongTheSides() {
+        int[] ends = {-1000, 1000};
+        for (int end : ends) {
+            for (int sign = -1; sign <= 1; sign += 2) {
+                SlopeChecker up = s.told("mode a 0 " + sign + ";edge a a;when 0 " + -sign + " -999;add y " + -sign + ";");
+                s.due("along x " + end + " by " + sign, up.ride(0, end, -1000 * sign, 1, 3), 3);
+                s.due("its first time", up.ridden(1, 6), 1999);
+                SlopeChecker right = s.told("mode a " + sign + " 0;edge a a;when " + -sign + " 0 -999;add x " + -sign + ";");
+                s.due("along y " + end + " by " + sign, right.ride(0, -1000 * sign, end, 1, 3), 3);
+                s.due("its first time", right.ridden(1, 6), 1999);
+            }
+        }
+    }
+
+    /** What is put is kept there, or not, whatever the SLOPES are; the other size goes on. */
+    private static void keptThere() {
+        for (int sign = -1; sign <= 1; sign += 2) {
+            for (int other = -1; other <= 1; other += 2) {
+                String x = "mode a 1 " + other + ";mode b 0 0;keep b " + sign + " 0 5;edge a b;when -3 0 -7;put x ";
+                jumpTo(x + 5 * sign + ";", 1, 7, 3);
+                jumpTo(x + 6 * sign + ";", 0, 0, 0);
+                String y = "mode a " + other + " 1;mode b 0 0;keep b 0 " + sign + " 5;edge a b;when 0 -3 -7;put y ";
+                jumpTo(y + 5 * sign + ";", 1, 7, 3);
+                jumpTo(y + 6 * sign + ";", 0, 0, 0);
+            }
+        }
+        // of several BOUNDS the one that ends first, and the GUARD that begins last, in either order
+        String[] ends = {"keep a 3 0 10;keep a 2 0 7;", "keep a 2 0 7;keep a 3 0 10;"};
+        for (String end : ends) {
+            jumpTo("mode a 1 0;" + end + "edge a a;when -3 0 -10;put x 0;", 1, 10, 3);
+            jumpTo("mode a 1 0;" + end + "edge a a;when -9 0 -31;put x 0;", 0, 0, 0);
+            jumpTo("mode a 1 0;" + end + "edge a a;when -9 0 -29;when -5 0 -16;when -4 0 -9;when -1 0 0;put x 0;", 1, 29, 9);
+            jumpTo("mode a 1 0;" + end + "edge a a;when -5 0 -16;when -9 0 -29;when -4 0 -9;when -1 0 0;put x 0;", 1, 29, 9);
+        }
+        SlopeChecker last = s.told(TEN + "put x 5;put y -7;");
+        last.ride(0, 1, 1, 1, 1);
+        int[] cells = {1, 5, 1, -7, 1, 9};
+        for (int what = 0; what < cells.length; what++) {
+            s.due("by the last of ten EDGES, " + what, last.ridden(1, what), cells[what]);
+        }
+        last = s.told(TEN + "add x 999;add y -1;");
+        s.due("by the last of ten EDGES, within", last.ride(0, 1, -999, 1, 1), 1);
+        s.due("by the last of ten EDGES, not within", last.ride(0, 2, -999, 1, 1), 0);
+        s.due("by the last of ten EDGES, nor so", last.ride(0, 1, -1000, 1, 1), 0);
+    }
+
+    /** From 0, 0: whether it JUMPS, and after which time. */
+    private static void jumpTo(String text, int jumps, int above, int below) {
+        SlopeChecker x = s.told(text);
+        s.due("JUMPS of " + text, x.ride(0, 0, 0, 1, 1), jumps);
+        if (jumps > 0) {
+            time(text, x, above, below);
+        }
     }
 
     private static void ridden() {
@@ -383,6 +454,8 @@ public final class BoundaryWayTest {
         x.ride(0, 4, 12, 2, 1);
         s.due("in lowest terms", x.ridden(0, 1), 2);
         s.due("in lowest terms, below", x.ridden(0, 2), 1);
+        s.due("no time ahead of a new one", x.ridden(0, 6), 0);
+        s.due("no time ahead of a new one, below", x.ridden(0, 7), 1);
 
         s.of(22, "Integer.MIN_VALUE: none was told, no such ones.");
         SlopeChecker none = s.told("mode a 0 0;edge a a;keep a 1 0 5;");
@@ -485,6 +558,19 @@ public final class BoundaryWayTest {
         s.due("where it began isn't asked", x.followed(), 1);
         x.ride(1, 5, 9, 1, 1);
         s.due("no JUMP", x.followed(), 1);
+        SlopeChecker square = s.stepped("mode a 0 0;mode b 0 0;start a 0 1 0 1;edge a b;", 1);
+        square.ride(0, 30, 29, 30, 1);
+        s.due("1 and 29/30", square.followed(), 1);
+        square.ride(0, 30, 31, 30, 1);
+        s.due("1 and 31/30", square.followed(), 0);
+        square.ride(0, -1, 15, 30, 1);
+        s.due("-1/30 and 1/2", square.followed(), 0);
+        String up = "mode a 0 3;mode b 0 0;keep b 0 1 1;start a 0 0 0 0;edge a b;when 0 -7 ";
+        SlopeChecker sevenths = s.stepped(up + "-5;", 1);
+        sevenths.ride(0, 0, 0, 1, 1);
+        s.due("up to 5/7", sevenths.followed(), 1);
+        sevenths.ride(0, 1, 0, 30, 1);
+        s.due("1/30 to the right", sevenths.followed(), 0);
         SlopeChecker gone = s.stepped("mode a 0 0;start a 0 0 0 0;edge a a;add x 2;most 1;", 1);
         gone.ride(0, -2, 0, 1, 1);
         s.due("in PART 1, PART 0 is GONE", gone.followed(), 1);

@@ -41,6 +41,53 @@ public final class OracleTest {
         // more PARTS than there may be, of one MODE and of several
         "mode a 0 0;edge a a;add x 1;edge a a;add y 1;start a 0 0 0 0;most 8;",
         "mode a 1 0;mode b 0 1;edge a b;add y -3;edge b a;add x -7;edge a a;add y 2;start a 0 1 0 1;most 2;harm b 1 1 -40;",
+        "mode a 0 0;start a 0 0 0 0;edge a a;add x 1;most 8;when 1 0 58;mode b 0 0;edge a b;when -1 0 -59;",
+        "mode a 0 0;mode b 0 0;mode c 0 0;mode d 0 0;mode e 0 0;mode f 0 0;start a 0 0 0 0;edge a b;add x 1;edge b c;add x 1;"
+            + "edge c d;add x 1;edge d e;add x 1;edge e f;add x 1;edge f a;add x 1;most 8;",
+        // LIMITS just BEYOND and just not: behind a guard, behind what is kept, as GROWN, of the first PART
+        "mode a -4 9;keep a -7 8 27;mode b 7 2;mode c 0 0;start a -18 -18 -29 -29;edge a b;when 7 -8 -27;edge b c;when 4 1 26;"
+            + "put x 0;put y 0;",
+        "mode a -7 -5;keep a -7 -6 -12;mode b -8 -1;mode c 0 0;start a 12 12 -1 -1;edge a b;when 7 6 12;edge b c;put x 7;"
+            + "edge b c;when -5 2 -27;put x 0;put y 0;edge b c;put x 8;",
+        "mode a -4 9;keep a -7 8 27;mode b 7 2;mode c 0 0;start a -18 -18 -29 -29;edge a b;when 7 -8 -27;edge b c;keep c 4 1 26;",
+        "mode a -7 -5;keep a -7 -6 -12;mode b -8 -1;mode c 0 0;start a 12 12 -1 -1;edge a b;when 7 6 12;edge b c;keep c -5 2 -27;",
+        "mode a -4 9;mode b 7 2;keep a -7 8 -25;keep b 4 1 -36;edge a b;when 7 -8 25;start a 8 8 -50 -50;",
+        "mode a -7 -5;mode b -8 -1;keep a -7 -6 -8;keep b -5 2 17;edge a b;when 7 6 8;start a 46 46 16 16;",
+        "mode a -3 5;mode b -2 3;keep a -6 7 -966;keep b -5 1 800;edge a b;when 6 -7 966;start a 614 614 -456 -456;",
+        "mode a 7 2;mode b 5 -8;keep a 1 6 -804;keep b 8 -5 715;edge a b;when -1 -6 804;start a -704 -704 -226 -226;",
+        "mode a -8 3;mode b -7 1;keep a -8 -5 -787;keep b -7 -6 -446;edge a b;when 8 5 787;start a 894 894 -135 -135;",
+        "mode a -8 1;mode b 3 5;keep a -7 5 914;keep b -4 7 -289;edge a b;when 7 -5 -914;start a -194 -194 -544 -544;",
+        "mode a -8 1;keep a 7 -2 250;keep a -8 -3 768;harm a -8 9 0;start a -231 169 464 464;",
+        "mode a -4 -9;keep a 5 7 420;keep a -6 -7 367;harm a 7 -9 0;start a 443 496 -294 -294;",
+        "mode a -9 8;keep a 7 1 -14;keep a -5 4 627;harm a 7 9 0;start a -400 106 -755 -755;",
+        "mode a -1 -7;keep a 8 3 -855;keep a -5 -9 592;harm a 9 -8 0;start a -405 -373 712 712;",
+        // WAYS just there and just not: x and y of OUT, TIME, x and y of IN, OUT of the place ahead, what is above of TIME
+        "mode a -3 -7;keep a -4 -9 -6;mode b -4 -3;start a 4 4 3 3;edge a b;when 4 9 6;harm b -7 -4 -8;",
+        "mode a 4 5;keep a 9 8 19;mode b 1 9;start a 1 1 -25 -25;edge a b;when -9 -8 -19;harm b -7 -8 -23;",
+        "mode a -4 -9;keep a -3 -7 -13;mode b 8 0;start a -2 -2 24 24;edge a b;when 3 7 13;harm b -5 -2 -9;",
+        "mode a 5 -2;keep a 4 -9 23;mode b -5 6;start a 12 12 18 18;edge a b;when -4 9 -23;harm b -5 9 20;",
+        "mode a 0 0;mode b -9 4;edge a b;when -4 1 8;harm b -9 2 21;harm b -6 -7 37;start a -999 999 -999 999;",
+        "mode a 0 0;mode b -8 3;edge a b;when -8 5 -24;harm b -8 5 12;harm b -6 -1 -35;start a -999 999 -999 999;",
+        "mode a 0 0;mode b -8 7;edge a b;when -1 6 2;harm b 1 -9 -29;harm b -7 3 30;start a -999 999 -999 999;",
+        "mode a 0 0;mode b 3 -8;edge a b;when 5 -8 -21;harm b -7 -6 -19;harm b 3 8 -30;start a -999 999 -999 999;",
+        "mode a 0 0;mode b -3 -5;edge a b;when 1 -8 17;put y 4;harm b -8 -1 -24;harm b -3 9 -2;start a -999 999 -999 999;",
+        "mode a 0 0;mode b -5 8;edge a b;when -9 -8 15;put y -3;harm b -9 -2 27;harm b 8 7 4;start a -999 999 -999 999;",
+        "mode a 1 -7;keep a 0 -1 0;mode b -7 1;keep b -1 0 0;mode c 0 1;mode d 0 0;edge a b;when 0 1 0;edge b a;when 1 0 0;"
+            + "when 0 -1 -12;add y 10;edge b c;when 1 0 0;when 0 1 1;add y -999;edge c d;when 0 -1 -251;harm c 0 -1 -251;most 8;"
+            + "start a 0 0 760 760;",
+        "mode a 1 -7;keep a 0 -1 0;mode b -7 1;keep b -1 0 0;mode c 0 1;mode d 0 0;edge a b;when 0 1 0;edge b a;when 1 0 0;"
+            + "when 0 -1 -12;add y 10;edge b c;when 1 0 0;when 0 1 1;add y -999;edge c d;when 0 -1 -251;harm c 0 -1 -251;most 8;"
+            + "start a 0 0 759 759;",
+        // the TIMES of a WAY together just not too fine, just too fine, and too fine only between
+        "mode a -4 7;keep a 9 8 9;mode b -8 -8;keep b -8 -9 57;mode c 1 8;keep c 1 6 55;mode d -8 -5;keep d -2 -9 -11;"
+            + "mode e 9 6;keep e 9 7 25;start a 0 0 0 0;edge a b;when -9 -8 -9;edge b c;when 8 9 -57;put x 0;put y 0;"
+            + "edge c d;when -1 -6 -55;edge d e;when 2 9 11;put x 0;put y 0;harm e -9 -7 -25;",
+        "mode a -8 -5;keep a -9 -7 4;mode b 4 6;keep b -4 7 23;mode c 3 4;keep c 3 7 54;mode d -7 -4;keep d -9 -1 -13;"
+            + "mode e 8 9;keep e 8 9 7;start a 0 0 0 0;edge a b;when 9 7 -4;edge b c;when 4 -7 -23;put x 0;put y 0;"
+            + "edge c d;when -3 -7 -54;edge d e;when 9 1 13;put x 0;put y 0;mode f 8 9;keep f 8 9 138;edge e f;when -8 -9 -7;"
+            + "put x 0;put y 0;harm f -8 -9 -138;",
+        // what is kept goes farther between two SETS than at either
+        "mode a 1 0;keep a 1 1 10;keep a 1 -1 10;start a 0 0 -5 -5;edge a a;put x 0;add y 10;most 1;",
     };
 
     public static void main(String[] args) {

@@ -20,6 +20,7 @@ public final class BoundaryStepTest {
         s = new Sentences(args);
         step();
         firstPart();
+        firstIs();
         beyond();
         cutOnce();
         grown();
@@ -88,6 +89,24 @@ public final class BoundaryStepTest {
         firstStops("mode a -4 -9;keep a 5 7 420;keep a -6 -7 367;harm a 7 -9 0;start a 443 496 -294 -294;");
         first("mode a -9 8;keep a 7 1 -14;keep a -5 4 627;harm a 7 9 0;start a -400 106 -755 -755;", -3000000);
         firstStops("mode a -1 -7;keep a 8 3 -855;keep a -5 -9 592;harm a 9 -8 0;start a -405 -373 712 712;");
+    }
+
+    private static void firstIs() {
+        s.of(5, "The first one: MODE of start, ENTRY its points within what the MODE keeps, SET that GROWN, DEPTH 0, EXACT, OPEN");
+        SlopeChecker x = s.told("mode a 0 0;mode b 1 0;keep b 2 0 9;keep b 0 -1 -1;start b 0 4 0 3;");
+        int[] part = {1, -2, -2, 0, 1, 1, 0, 0, 4, 4};
+        for (int what = 0; what < part.length; what++) {
+            s.due("part(0, " + what + ")", x.part(0, what), part[what]);
+        }
+        int[] entry = {4, 0, 3, -1};
+        int[] set = {9, 0, 3, -1};
+        for (int k = 0; k < 4; k++) {
+            s.due("ENTRY, LIMIT " + k, x.limit(0, 0, k, 0), entry[k]);
+            s.due("SET, LIMIT " + k, x.limit(0, 1, k, 0), set[k]);
+        }
+        s.due("9/2", x.limit(0, 1, 0, 1), 2);
+        s.due("ENTRY cut at 9/2", s.told("mode a 0 0;keep a 2 0 9;start a 0 5 0 0;").limit(0, 0, 0, 0), 9);
+        s.due("ENTRY not cut at 5", s.told("mode a 0 0;keep a 2 0 10;start a 0 5 0 0;").limit(0, 0, 0, 0), 5);
     }
 
     /** One of its LIMITS has just that above. */

@@ -43,6 +43,14 @@ public final class BoundaryTextTest {
         s.due("new text(0)", x.text(0), 0);
         s.due("one MODE told", s.told(A).count(0), 1);
         s.due("new feed", new SlopeChecker().feed(0, 0, 0, 0, 0), 20);
+
+        s.of(1, "An object is used for at most 512 calls after it has been made");
+        SlopeChecker used = new SlopeChecker();
+        for (int call = 1; call < 511; call++) {
+            used.count(call % 8);
+        }
+        s.due("call 511", used.feed(0x6d6f7374, 0x20373b20, 0x20202020, 0x20202020, 0x20202020), 20);
+        s.due("call 512", used.text(20), 1);
     }
 
     private static void feed() {

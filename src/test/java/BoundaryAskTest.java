@@ -212,6 +212,15 @@ public final class BoundaryAskTest {
         s.due("part(59, 1)", x.part(59, 1), 58);
         s.due("part(59, 3)", x.part(59, 3), 59);
 
+        s.of(11, "4 EXACT (1, 0), 5 OPEN, 6 GONE, 7 HARMED");
+        SlopeChecker four = s.stepped("mode a 0 0;start a 0 0 0 0;edge a a;add x 1;most 1;harm a -1 0 -1;", 2);
+        int[][] bits = {{1, 0, 1, 0}, {0, 0, 1, 1}, {0, 1, 0, 1}};
+        for (int p = 0; p < 3; p++) {
+            for (int what = 4; what < 8; what++) {
+                s.due("part(" + p + ", " + what + ")", four.part(p, what), bits[p][what - 4]);
+            }
+        }
+
         s.of(11, "8 corners of its SET, 9 of its ENTRY");
         SlopeChecker grown = s.told("mode a 1 0;start a 0 0 0 0;");
         s.due("corners of a point", grown.part(0, 9), 1);
@@ -266,6 +275,15 @@ public final class BoundaryAskTest {
         loose = s.told("mode a 0 0;keep a 1 1 4;start a 0 5 0 5;");
         s.due("the side doesn't", loose.limit(0, 1, 0, 0), 4);
 
+        s.of(12, "The LIMIT of a NORMAL in a PART's ENTRY (which 0), SET (1), what 0 above, 1 below");
+        SlopeChecker half = s.told("mode a 1 0;keep a 2 0 9;keep a -3 0 -4;start a 1 2 5 5;");
+        int[][] limits = {{2, 1, 9, 2}, {-4, 3, -4, 3}, {5, 1, 5, 1}, {-5, 1, -5, 1}};
+        for (int k = 0; k < 4; k++) {
+            for (int i = 0; i < 4; i++) {
+                s.due("limit(0, " + i / 2 + ", " + k + ", " + i % 2 + ")", half.limit(0, i / 2, k, i % 2), limits[k][i]);
+            }
+        }
+
         s.of(12, "Integer.MIN_VALUE: no such ones.");
         SlopeChecker last = s.stepped(COUNTER, 60);
         s.due("limit(-1, 0, 0, 0)", last.limit(-1, 0, 0, 0), NO_INT);
@@ -307,6 +325,14 @@ public final class BoundaryAskTest {
         s.due("no third", line.corner(0, 1, 2, 0), NO_LONG);
         s.due("corners of a point", line.part(0, 9), 1);
         s.due("no second", line.corner(0, 0, 1, 0), NO_LONG);
+
+        s.of(13, "The i-th of a PART's ENTRY (which 0), SET (1), what 0, 1 x above, below, 2, 3 y");
+        long[][] ends = {{-1, 1, 3, 1}, {-1, 1, 3, 1}, {9, 2, 3, 1}};
+        for (int what = 0; what < 4; what++) {
+            s.due("corner(0, 0, 0, " + what + ")", line.corner(0, 0, 0, what), ends[0][what]);
+            s.due("corner(0, 1, 0, " + what + ")", line.corner(0, 1, 0, what), ends[1][what]);
+            s.due("corner(0, 1, 1, " + what + ")", line.corner(0, 1, 1, what), ends[2][what]);
+        }
 
         s.of(13, "Long.MIN_VALUE: there are no such ones.");
         s.due("corner(-1, 1, 0, 0)", x.corner(-1, 1, 0, 0), NO_LONG);
@@ -350,6 +376,17 @@ public final class BoundaryAskTest {
         s.due("29971 by 30", wide.has(0, 1, 0, 29971, 30), 0);
         SlopeChecker all = s.told("mode a 1 0;start a -999 -999 -999 999;");
         s.due("1000", all.has(0, 1, 30000, 0, 30), 1);
+
+        s.of(14, "its points are those of which each NORMAL (its parts times x, times y, together) is its LIMIT or less");
+        SlopeChecker slant = s.told("mode a 0 0;keep a 2 3 14;keep a -3 1 4;start a -9 9 -9 9;");
+        s.due("2 by 4 and 3 by 2", slant.has(0, 1, 4, 2, 1), 1);
+        s.due("a thirtieth to the right of it", slant.has(0, 1, 121, 60, 30), 0);
+        s.due("a thirtieth above it", slant.has(0, 1, 120, 61, 30), 0);
+        s.due("-3 by -1 and 1 by 1", slant.has(0, 1, -1, 1, 1), 1);
+        s.due("a thirtieth to the left of it", slant.has(0, 1, -31, 30, 30), 0);
+        s.due("a thirtieth above that", slant.has(0, 1, -30, 31, 30), 0);
+        s.due("both: 2/11 and 50/11", slant.has(0, 1, 4, 100, 22), 1);
+        s.due("a bit above both", slant.has(0, 1, 4, 101, 22), 0);
 
         s.of(14, "NONE: no such ones.");
         s.due("x 30001", x.has(0, 1, 30001, 0, 30), -1);

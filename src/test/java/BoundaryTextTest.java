@@ -240,6 +240,19 @@ public final class BoundaryTextTest {
         s.faulty("most 4:", 1, 6);
         s.faulty("most 4<", 1, 6);
 
+        s.of(4, "LINE: mode W N N | keep W N N N | harm W N N N | edge W W | when N N N | put S N | add S N | start W N N N N | most N.");
+        String[] lines = {"mode b 1 2", "keep a 1 2 3", "harm a 1 2 3", "edge a a", "when 1 2 3", "put x 1", "add y 2",
+            "start a 1 2 3 4", "most 5"};
+        for (String line : lines) {
+            int at = EDGE.length();
+            int last = line.lastIndexOf(' ');
+            s.right(EDGE + line + ";", 3);
+            s.faulty(EDGE + line.substring(0, last) + ";", 1, at + last);
+            s.faulty(EDGE + line + " 1;", 1, at + line.length() + 1);
+            s.faulty(EDGE + line + " a;", 1, at + line.length() + 1);
+            s.faulty(EDGE + line + " " + line + ";", 1, at + line.length() + 1);
+        }
+
         s.of(4, "W: a word, a .. z, of 1 .. 6 letters");
         s.right("mode a 0 0;", 1);
         s.right("mode z 0 0;", 1);

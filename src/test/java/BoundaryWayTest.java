@@ -176,6 +176,17 @@ public final class BoundaryWayTest {
     }
 
     private static void onWay() {
+        s.of(19, "At each: IN, a point of its ENTRY; OUT, a point of its SET; TIME, by which its SLOPES lead from IN to OUT.");
+        SlopeChecker led = s.stepped("mode a 2 3;keep a 5 0 9;mode b -3 1;start a 0 0 1 1;edge a b;when -5 0 -6;add y 1;harm b 1 0 0;"
+            + "harm b 0 2 9;", 1);
+        cells(led, 1, 0, new int[] {0, 0, 1, 1, 1, 6, 5, 14, 5, 3, 5});
+        cells(led, 1, 1, new int[] {1, 6, 5, 19, 5, -9, 10, 9, 2, 7, 10});
+        for (int place = 0; place < 2; place++) {
+            s.due("IN of place " + place + " is in ENTRY", hasCell(led, place, 0, 1), 1);
+            s.due("OUT of place " + place + " is in SET", hasCell(led, place, 1, 5), 1);
+            s.due("OUT of place " + place + " isn't in ENTRY", hasCell(led, place, 0, 5), 0);
+        }
+
         s.of(19, "Integer.MIN_VALUE: no such ones, no WAY.");
         SlopeChecker x = s.stepped(BOUNCE, 60);
         s.due("onWay(1, -1, 0)", x.onWay(1, -1, 0), NO_INT);
@@ -197,6 +208,13 @@ public final class BoundaryWayTest {
             s.due("onWay(1, " + far + ", 0)", x.onWay(1, far, 0), NO_INT);
             s.due("onWay(1, 0, " + far + ")", x.onWay(1, 0, far), NO_INT);
         }
+    }
+
+    /** Whether a point of the WAY to PART 1, all of whose parts are by 30, is in the PART of its place. */
+    private static int hasCell(SlopeChecker x, int place, int which, int what) {
+        int atX = 30 / x.onWay(1, place, what + 1) * x.onWay(1, place, what);
+        int atY = 30 / x.onWay(1, place, what + 3) * x.onWay(1, place, what + 2);
+        return x.has(x.onWay(1, place, 0), which, atX, atY, 30);
     }
 
     /** What is below of the TIMES together, as far as a place, without an end to what can be told. */

@@ -33,7 +33,8 @@ public final class BoundaryAskTest {
     }
 
     private static void mode() {
-        s.of(7, "what 0, 1 its SLOPES, 2 BOUNDS that it keeps, 3 BOUNDS of its HARM, 4 EDGES from it, 5 PARTS that aren't GONE");
+        s.of(7, "Of a MODE, what 0, 1 its SLOPES, 2 BOUNDS that it keeps, 3 BOUNDS of its HARM, 4 EDGES from it, "
+            + "5 PARTS that aren't GONE");
         SlopeChecker least = s.told("mode a 0 0;mode b -9 9;");
         SlopeChecker most = s.stepped("mode a 9 -9;" + Sentences.times(4, "keep a 1 0 999;") + Sentences.times(3, "harm a 1 0 -999;")
             + Sentences.times(10, "edge a a;"), 1);
@@ -73,7 +74,7 @@ public final class BoundaryAskTest {
 
     private static void edge() {
         SlopeChecker ten = s.told(TEN_EDGES);
-        s.of(8, "what 0 from, 1 to, 2 BOUNDS of its GUARD, 3 what is done to x (0 nothing, 1 put, 2 added), "
+        s.of(8, "Of an EDGE, what 0 from, 1 to, 2 BOUNDS of its GUARD, 3 what is done to x (0 nothing, 1 put, 2 added), "
             + "4 by which number (0), 5, 6 likewise to y");
         int[] first = {0, 1, 0, 0, 0, 0, 0};
         int[] last = {1, 0, 4, 1, -999, 2, 999};
@@ -201,7 +202,24 @@ public final class BoundaryAskTest {
     }
 
     private static void part() {
-        s.of(11, "1 the PART it came from (-2: none), 2 the EDGE (-2), 3 DEPTH");
+        s.of(11, "PARTS have numbers from 0 on: MODE, ENTRY (a SET), SET, what it came from (PART, EDGE), DEPTH, EXACT, OPEN, GONE.");
+        SlopeChecker three = s.stepped("mode a 0 0;mode b 1 0;keep b 1 0 9;start a 0 1 0 0;edge a b;add x 5;edge b a;put x 0;add y 2;", 2);
+        int[][] all = {{0, -2, -2, 0, 1, 0, 0}, {1, 0, 0, 1, 1, 0, 0}, {0, 1, 1, 2, 1, 1, 0}};
+        int[][] entries = {{1, 0, 0, 0}, {6, -5, 0, 0}, {0, 0, 2, -2}};
+        int[][] sets = {{1, 0, 0, 0}, {9, -5, 0, 0}, {0, 0, 2, -2}};
+        s.due("three", three.count(3), 3);
+        for (int p = 0; p < 3; p++) {
+            for (int what = 0; what < 7; what++) {
+                s.due("part(" + p + ", " + what + ")", three.part(p, what), all[p][what]);
+            }
+            for (int k = 0; k < 4; k++) {
+                s.due("ENTRY of " + p + ", LIMIT " + k, three.limit(p, 0, k, 0), entries[p][k]);
+                s.due("SET of " + p + ", LIMIT " + k, three.limit(p, 1, k, 0), sets[p][k]);
+            }
+        }
+        s.due("no fourth", three.part(3, 0), -1);
+
+        s.of(11, "Of a PART, what 0 MODE, 1 the PART it came from (-2: none), 2 the EDGE (-2), 3 DEPTH");
         SlopeChecker x = s.stepped(COUNTER, 60);
         int[][] want = {{0, -2, -2, 0}, {0, 0, 0, 1}};
         for (int p = 0; p < 2; p++) {
@@ -264,6 +282,16 @@ public final class BoundaryAskTest {
         s.due("0 above", zero.limit(0, 1, 0, 0), 0);
         s.due("0 has 1 below", zero.limit(0, 1, 0, 1), 1);
 
+        s.of(12, "A SET is told by a LIMIT for each NORMAL");
+        SlopeChecker six = s.told("mode a 0 0;start a 1 3 4 9;harm a 2 -1 0;harm a -1 2 0;");
+        int[] told = {3, -1, 9, -4, 2, 17};
+        s.due("as many as NORMALS", six.count(2), told.length);
+        for (int k = 0; k < told.length; k++) {
+            s.due("LIMIT " + k, six.limit(0, 1, k, 0), told[k]);
+            s.due("LIMIT " + k + ", below", six.limit(0, 1, k, 1), 1);
+        }
+        s.due("behind the last", six.limit(0, 1, told.length, 0), NO_INT);
+
         s.of(12, "LIMITS are TIGHT: the greatest there is in the SET");
         SlopeChecker loose = s.told("mode a 0 0;keep a 1 1 10;start a 0 5 0 5;");
         s.due("a BOUND in the corner", loose.limit(0, 1, 4, 0), 10);
@@ -308,7 +336,7 @@ public final class BoundaryAskTest {
     }
 
     private static void corner() {
-        s.of(13, "points of it in which two NORMALS that aren't alike or turned about both have their LIMITS, each once, "
+        s.of(13, "Corners of a SET: points of it in which two NORMALS that aren't alike or turned about both have their LIMITS, each once, "
             + "by x, then by y, rising");
         SlopeChecker x = s.told(BOX);
         long[][] want = {{0, 1, -2, 1}, {0, 1, 3, 1}, {5, 2, 3, 1}, {5, 1, -2, 1}, {5, 1, 4, 3}};

@@ -25,6 +25,7 @@ public final class BoundaryStepTest {
         cutOnce();
         grown();
         takes();
+        guardThenEntry();
         edgesTaken();
         lastEdge();
         movedBeyond();
@@ -263,6 +264,37 @@ public final class BoundaryStepTest {
         s.due("PART 1 is OPEN no more", x.part(1, 5), 0);
         s.due("PART 2 is OPEN still", x.part(2, 5), 1);
         s.due("PART 3 came from PART 1", x.part(3, 1), 1);
+    }
+
+    private static void guardThenEntry() {
+        s.of(5, "its SET CUT by the GUARD");
+        String cut = "mode a 0 0;mode b 0 0;start a 0 9 0 9;edge a b;when ";
+        int[][] want = {{5, 0, 9, 0}, {9, -5, 9, 0}, {9, 0, 5, 0}, {9, 0, 9, -5}};
+        String[] guards = {"1 0 5;", "-1 0 -5;", "0 1 5;", "0 -1 -5;"};
+        for (int i = 0; i < 4; i++) {
+            SlopeChecker x = s.stepped(cut + guards[i], 1);
+            for (int k = 0; k < 4; k++) {
+                s.due("LIMIT " + k + " behind " + guards[i], x.limit(1, 0, k, 0), want[i][k]);
+                s.due("the SET it came from stays, LIMIT " + k, x.limit(0, 1, k, 0), new int[] {9, 0, 9, 0}[k]);
+            }
+        }
+        SlopeChecker grownAhead = s.stepped("mode a 1 0;mode b 0 0;start a 0 0 0 0;edge a b;when -1 0 -7;", 1);
+        s.due("its SET, not its ENTRY", grownAhead.count(3), 2);
+        s.due("ahead of what is put", s.stepped(cut + "1 0 5;put x 8;", 1).limit(1, 0, 0, 0), 8);
+        s.due("ahead of what is added", s.stepped(cut + "1 0 5;add x 8;", 1).limit(1, 0, 0, 0), 13);
+
+        s.of(5, "else it is an ENTRY, GROWN by that MODE a SET.");
+        SlopeChecker x = s.stepped("mode a 0 0;mode b 2 -1;keep b 1 0 5;start a 0 1 0 0;edge a b;", 1);
+        int[] entry = {1, 0, 0, 0, 1, 0};
+        int[] set = {5, 0, 0, 5, 1, 0};
+        int[] below = {1, 1, 1, 2, 1, 1};
+        for (int k = 0; k < 6; k++) {
+            s.due("ENTRY, LIMIT " + k, x.limit(1, 0, k, 0), entry[k]);
+            s.due("SET, LIMIT " + k, x.limit(1, 1, k, 0), set[k]);
+            s.due("SET, LIMIT " + k + ", below", x.limit(1, 1, k, 1), below[k]);
+        }
+        s.due("grown by the MODE to which it leads alone", s.stepped("mode a 2 -1;mode b 0 0;start a 0 1 0 0;edge a b;when 1 0 1;", 1)
+            .part(1, 8), 3);
     }
 
     private static void edgesTaken() {
@@ -509,6 +541,13 @@ public final class BoundaryStepTest {
     }
 
     private static void check() {
+        s.of(6, "What 0 whether it is SAFE (1, 0)");
+        s.due("a new one", new SlopeChecker().check(0), 1);
+        s.due("OPEN", s.told(COUNTER).check(0), 0);
+        s.due("STOPPED", s.stepped(COUNTER, 60).check(0), 0);
+        s.due("through", s.stepped("mode a 1 0;start a 0 0 0 0;edge a a;", 1).check(0), 1);
+        s.due("harm", s.stepped("mode a 1 0;start a 0 0 0 0;edge a a;harm a -1 0 -999;", 1).check(0), 0);
+
         s.of(6, "1 the first PART that is HARMED (-2: none), 2 the first such one that is EXACT (-2), "
             + "3 why it STOPS (0: it doesn't, 1 BEYOND, 2 a 61st PART)");
         SlopeChecker none = s.stepped(COUNTER + "most 2;harm a -1 0 -3;", 2);

@@ -396,10 +396,25 @@ public final class BoundaryTextTest {
                 s.faulty(EDGE + first + " x 1;" + second + " y 1;" + second + " x 1;", 3, 36);
             }
         }
-        s.faulty(EDGE + "put w 1;", 1, 24);
-        s.faulty(EDGE + "put z 1;", 1, 24);
-        s.faulty(EDGE + "add xx 1;", 1, 24);
-        s.faulty(EDGE + "add xy 1;", 1, 24);
+
+        s.of(4, "S: x | y.");
+        for (String kind : kinds) {
+            s.right(EDGE + kind + " x 1;", 3);
+            s.right(EDGE + kind + " y 1;", 3);
+            s.faulty(EDGE + kind + " w 1;", 1, 24);
+            s.faulty(EDGE + kind + " z 1;", 1, 24);
+            s.faulty(EDGE + kind + " xx 1;", 1, 24);
+            s.faulty(EDGE + kind + " xy 1;", 1, 24);
+            s.faulty(EDGE + kind + " a 1;", 1, 24);
+            s.faulty(EDGE + kind + " put 1;", 1, 24);
+            s.faulty(EDGE + kind + " 1;", 1, 24);
+            s.faulty(EDGE + kind + " - 1;", 1, 24);
+            s.faulty(EDGE + kind + ";", 1, 23);
+            s.faulty("mode a 0 0;edge a " + kind + ";", 1, 18);
+        }
+        SlopeChecker x = s.told(EDGE + "put x 3;add y 4;");
+        s.due("x is put", x.edge(0, 4), 3);
+        s.due("y is added to", x.edge(0, 6), 4);
     }
 
     private static void startAndMost() {
@@ -492,7 +507,7 @@ public final class BoundaryTextTest {
     }
 
     private static void cantStand() {
-        s.of(4, "1 a TOKEN that is none (a word that is too long, too) or can't stand there");
+        s.of(4, "1 a TOKEN that is none (a word that is too long, too) or can't stand there (");
         s.faulty("mostmos 4;", 1, 0);
         s.faulty("most 4 4;", 1, 7);
         s.faulty("most a;", 1, 5);
@@ -545,7 +560,11 @@ public final class BoundaryTextTest {
     }
 
     private static void tooMuch() {
-        s.of(4, "a number beyond what is said (of a BOUND with A 0: B 0, at it; at '-', if there is one)");
+        s.of(4, "2 too much (at it): a number beyond what is said (of a BOUND with A 0: B 0, at it; at '-', if there is one)");
+        s.faulty("mode a 10 0;", 2, 7);
+        s.faulty("mode a 10 10;", 2, 7);
+        s.faulty(A + "keep a 1 1 1000;", 2, 22);
+        s.faulty(A + "start a 0 1000 0 0;", 2, 21);
         s.faulty("mode a 0 10;", 2, 9);
         s.faulty("mode a 0 - 10;", 2, 9);
         s.faulty("mode a 0  \n-10;", 2, 11);

@@ -153,7 +153,7 @@ public final class BoundaryWayTest {
         cells(s.told(right + "-1;"), 0, 0, new int[] {0, 1, 1, 0, 1, 1, 1, 0, 1, 0, 1});
         cells(s.told("mode a -2 0;start a 0 2 0 0;"), 0, 0, new int[] {0, 0, 1, 0, 1, -1000, 1, 0, 1, 500, 1});
 
-        s.of(19, "of those points of its SET that hold the GUARD, and by which, put and added to, IN comes, "
+        s.of(19, "OUT of the one ahead: of those points of its SET that hold the GUARD, and by which, put and added to, IN comes, "
             + "the one of the least x, then of the least y");
         String ahead = "mode a 0 0;mode b 0 0;start a -1 5 -2 3;edge a b;";
         cells(s.stepped(ahead + "put x 9;put y 9;", 1), 1, 0, new int[] {0, -1, 1, -2, 1, -1, 1, -2, 1, 0, 1});
@@ -186,6 +186,13 @@ public final class BoundaryWayTest {
             s.due("OUT of place " + place + " is in SET", hasCell(led, place, 1, 5), 1);
             s.due("OUT of place " + place + " isn't in ENTRY", hasCell(led, place, 0, 5), 0);
         }
+
+        s.of(19, "Of place i of a WAY, what 0 its PART, 1, 2 x of IN above, below, 3, 4 y of IN, 5, 6 x of OUT, 7, 8 y of OUT, "
+            + "9, 10 TIME");
+        // eleven numbers that are all others
+        SlopeChecker eleven = s.stepped("mode a 0 0;mode b 9 8;start a 0 9 0 9;edge a b;when 6 2 19;harm b -3 2 -26;harm b 0 -2 -69;", 1);
+        cells(eleven, 1, 1, new int[] {1, 17, 21, 99, 14, 95, 3, 69, 2, 24, 7});
+        cells(led, 1, 1, new int[] {1, 6, 5, 19, 5, -9, 10, 9, 2, 7, 10});
 
         s.of(19, "Integer.MIN_VALUE: no such ones, no WAY.");
         SlopeChecker x = s.stepped(BOUNCE, 60);
@@ -259,7 +266,12 @@ public final class BoundaryWayTest {
         s.due("wayTime(8, 1)", joined.wayTime(8, 1), -2);
         s.due("wayTime(7, 1)", joined.wayTime(7, 1), 1);
 
-        s.of(20, "what 0 above, 1 below (as longs)");
+        s.of(20, "TIMES of a WAY together, what 0 above, 1 below (as longs)");
+        SlopeChecker thirds = s.stepped("mode a 3 0;mode b 0 7;start a 0 0 0 0;edge a b;when -1 0 -2;harm b 0 -1 -5;", 1);
+        s.due("2/3", thirds.onWay(1, 0, 10), 3);
+        s.due("5/7", thirds.onWay(1, 1, 10), 7);
+        s.due("29/21, above", thirds.wayTime(1, 0), 29);
+        s.due("29/21, below", thirds.wayTime(1, 1), 21);
         SlopeChecker x = s.stepped(BOUNCE, 60);
         s.due("wayTime(0, 0)", x.wayTime(0, 0), 0);
         s.due("wayTime(0, 1)", x.wayTime(0, 1), 1);
@@ -322,7 +334,7 @@ public final class BoundaryWayTest {
     }
 
     private static void ride() {
-        s.of(21, "A RIDE from a point (as of has()) in a MODE, n 1 .. 30: how often it JUMPED");
+        s.of(21, "A RIDE from a point (as of has()) in a MODE, n 1 .. 30: how often it JUMPED (it is told by ridden())");
         SlopeChecker x = s.told("mode a 0 0;edge a a;");
         s.due("n 0", x.ride(0, 0, 0, 1, 0), -1);
         s.due("n 1", x.ride(0, 0, 0, 1, 1), 1);
@@ -459,7 +471,7 @@ public final class BoundaryWayTest {
     }
 
     private static void ridden() {
-        s.of(22, "behind its j-th JUMP (0: as it began), what 0 MODE, 1, 2 x above, below, 3, 4 y, 5 the EDGE of the JUMP (-2 of 0), "
+        s.of(22, "Of the RIDE told last, behind its j-th JUMP (0: as it began), what 0 MODE, 1, 2 x above, below, 3, 4 y, 5 the EDGE of the JUMP (-2 of 0), "
             + "6, 7 the time that went by ahead of it");
         SlopeChecker x = s.told(BOUNCE);
         x.ride(0, 3, -9, 2, 2);
@@ -513,6 +525,17 @@ public final class BoundaryWayTest {
         x.ride(0, 5, 0, 1, 1);
         s.due("none at all", x.ended(), 1);
 
+        s.of(23, "Why the RIDE told last ENDS (1, 2, 3)");
+        SlopeChecker all = s.told(UP);
+        all.ride(0, 0, 760, 1, 30);
+        s.due("none can ever be taken", all.ended(), 1);
+        all.ride(0, 0, 759, 1, 30);
+        s.due("BEYOND", all.ended(), 2);
+        all.ride(0, 0, 759, 1, 4);
+        s.due("JUMPED 4 times", all.ended(), 3);
+        all.ride(0, 0, 760, 1, 30);
+        s.due("none, once more", all.ended(), 1);
+
         s.of(23, "NONE: none was told.");
         SlopeChecker none = s.told("mode a 0 0;keep a 1 0 5;");
         s.due("none was told", none.ended(), -1);
@@ -556,7 +579,7 @@ public final class BoundaryWayTest {
     }
 
     private static void followed() {
-        s.of(24, "whether each point behind a JUMP lies in the SET of a PART of its MODE that isn't GONE (1, 0); NONE: none was told.");
+        s.of(24, "Of the RIDE told last, whether each point behind a JUMP lies in the SET of a PART of its MODE that isn't GONE (1, 0); NONE: none was told.");
         String text = "mode a 0 0;mode b 0 0;start a 0 5 0 0;edge a b;add x 1;edge b a;put x 0;when -1 0 -6;";
         SlopeChecker x = s.told(text);
         s.due("none was told", x.followed(), -1);
